@@ -132,6 +132,8 @@ public final class PromiseTests {
         due("piano() of a new object", x.piano(), -2);
         due("fault(0) of a new object", x.fault(0), 0);
         due("fault(1) of a new object", x.fault(1), -1);
+        due("back() of a new object", x.back(), -1);
+        due("undo() of a new object", x.undo(), -1);
         due("text(1) of an empty tape", x.text(1), -2);
         due("text(0) of an empty tape", x.text(0), 0);
     }
@@ -170,6 +172,7 @@ public final class PromiseTests {
         due("-2 leaves the fault", x.fault(0), 3);
         due("a text of three lines", tell(x, " call 8 ;\nseed 9; piano 3 ;"), 3);
         due("without a fault", x.fault(0), 0);
+        due("without its place", x.fault(1), -1);
 
         x = told(TWO);
         x.go(3);
@@ -196,11 +199,72 @@ public final class PromiseTests {
         due("at their steps", x.walker(0, 1) * 100 + x.walker(1, 1), 12);
         due("nobody met", x.walker(0, 6), 0);
         due("nobody sat", x.walker(0, 5), 0);
+        due("nobody will sit yet", x.walker(0, 4), 0);
         due("no rest taken", x.restOf(0, 3), 0);
         x.see(1, 0, 0, true);
         due("all are known", x.count(12), 1);
         due("fault(2)", x.fault(2), -1);
         due("fault(-1)", x.fault(-1), -1);
+        textsOneBehindAnother();
+        textsThatAreCut();
+    }
+
+    private static void textsOneBehindAnother() {
+        HalfLandings x = new HalfLandings();
+        for (int i = 0; i < 4; i++) {
+            due("all lines, time " + i, tell(x, TWO + "piano 11;call 40;seed 3;law sits 1;law talk 2*3;law wear 1+1;"), 14);
+            due("knots, time " + i, x.count(4), 7);
+            due("a fault in a law, time " + i, tell(x, "stair 3;law sits 1+(2*(3<not"), -1);
+            due("the law of before, time " + i, x.law(1, 0, 0), 6);
+        }
+        for (int i = 0; i < 2; i++) {
+            due("no lines, time " + i, x.text(0), 0);
+            for (int what = 0; what <= 13; what++) {
+                due("count(" + what + ") without lines", x.count(what), what == 3 ? 20 : 0);
+            }
+            due("no piano without lines", x.piano(), -2);
+            due("no call without lines", x.quiet(1, 0), 1);
+            due("no bench by its name", x.named(0, code("mid")), -1);
+            due("no walker by his name", x.named(1, code("ann")), -1);
+            due("no laws", tell(x, "bench b 1 1;walker a 0 0 1 0;"), 2);
+            due("law of before", x.law(0, 0, 0), ERROR);
+        }
+        due("a bench at a step of before", tell(x, "bench b 3 1;bench c 1 1;"), 2);
+        for (int i = 0; i < 4; i++) {
+            tell(x, "bench b 3 1;walker a 0 0 1 0;law talk 1" + times("+1", 31) + ";");
+            due("63 knots, time " + i, x.law(1, 0, 0), 32);
+        }
+
+        x = told(TWO);
+        x.go(3);
+        due("ann sits yet", x.walker(0, 4), 2);
+        tell(x, TWO);
+        due("ann waits", x.walker(0, 4), 0);
+        String called = "bench b 1 1;walker a 0 0 1 0;rest a b 30;call 20;";
+        HalfLandings fresh = told(called);
+        fresh.go(30);
+        x = told("seed 77;");
+        tell(x, "seed 77;");
+        tell(x, called);
+        x.go(30);
+        due("no seed is left", x.walker(0, 5), fresh.walker(0, 5));
+    }
+
+    private static void cut(String text, int n, int place) {
+        HalfLandings x = new HalfLandings();
+        feedAll(x, text);
+        due(text + " cut at " + n, x.text(n), -1);
+        due("fault(0) of " + text + " cut at " + n, x.fault(0), 1);
+        due("fault(1) of " + text + " cut at " + n, x.fault(1), place);
+    }
+
+    private static void textsThatAreCut() {
+        cut("stair 600;", 7, 7);
+        cut("piano 5;lawx", 11, 11);
+        cut("law sits 1<=2;", 11, 11);
+        cut("law sits 1<>2;", 11, 11);
+        cut("law sits 1>=2;", 11, 11);
+        cut("seed 5;", 6, 6);
     }
 
     private static void faultsOfLines() {
@@ -300,6 +364,8 @@ public final class PromiseTests {
         lines("law sits 1;law talk 2;law wear 3;", 3);
         fault("law", 1, 3);
         fault("law pace 1;", 1, 4);
+        fault("law law 1;", 1, 4);
+        fault("law or 1;", 1, 4);
         fault("law x 1;", 1, 4);
         fault("law sits", 1, 8);
         fault("law sits;", 1, 8);
@@ -326,6 +392,9 @@ public final class PromiseTests {
         fault("law sits 1*not 2;", 1, 11);
         fault("law sits not;", 1, 12);
         lines("law sits not not 1;", 1);
+        lines("law sits 1+(not 2);", 1);
+        lines("law sits 1<(not 2);", 1);
+        lines("law sits " + times("(", 8) + times("not ", 63) + "1" + times(")", 8) + ";", 1);
         lines("law sits 1 and not 2 or not (not 3);", 1);
         lines("law sits 1<=2;", 1);
         lines("law sits 1<>2;", 1);
@@ -610,6 +679,9 @@ public final class PromiseTests {
         value("1000*1000*1000*1001", ERROR);
         value("(1000*1000*1000*1000)*(1000*1000*1000*1000)", ERROR);
         value("4096*4096*4096*4096*4096*4096", ERROR);
+        value("(4096*1024*1024)*(4096*1024*1024)", ERROR);
+        value("(0-4096*1024*1024)*(4096*1024*1024)", ERROR);
+        value("9999*9999*1000+9999*9999*1000", 199960002000L);
         value("0*(1000*1000*1000*1000)", 0);
         value("(0-1000)*1000*1000*1000", -1000000000000L);
         value("(0-1001)*1000*1000*1000", ERROR);
@@ -732,6 +804,13 @@ public final class PromiseTests {
         due("never called", x.walker(0, 0), 2);
         x.go(1);
         due("but up in the end", x.walker(0, 0), 1);
+        int seed = 0;
+        while ((seed * 1103515245L + 12345L) % 2147483648L / 65536 % 100 != 99) {
+            seed++;
+        }
+        x = told("bench b 1 1;walker a 0 0 1 0;rest a b 30;call 99;seed " + seed + ";");
+        x.go(1);
+        due("not called by 99 below 99", x.walker(0, 0), 2);
 
         // No number is drawn for the last minute of a rest, so b's first number is the seed's first.
         x = told("bench b 1 2;walker a 0 0 1 0;walker d 0 0 1 0;rest a b 1;rest d b 30;call 20;seed 77;");
@@ -814,6 +893,14 @@ public final class PromiseTests {
         far = "stair 9;bench b 1 1;bench c 2 1;bench d 3 1;bench e 4 2;walker a 0 0 1 99;walker f 9 1 5 99;"
             + "rest a b 30;rest a c 30;rest a d 30;rest a e 9;rest f e 30;";
         due("f is gone by then", told(far).meet(0, 1), -2);
+
+        // a is on step 4 + (m - 189) behind minute m from 189 on; f by his second rest r on 57 - (m - 129 - r).
+        String slow = "stair 60;bench b 1 1;bench c 2 1;bench d 3 1;bench h 59 1;bench i 58 1;walker a 0 0 1 99;"
+            + "walker f 60 1 1 99;rest a b 30;rest a c 30;rest a d 30;rest f h 30;rest f i ";
+        due("they pass in 199", told(slow + "24;").pass(0, 1), 199);
+        due("they pass in 200", told(slow + "26;").pass(0, 1), -2);
+        due("they meet in 199", told(slow + "23;bench e 13 2;rest a e 1;rest f e 30;").meet(0, 1), 199);
+        due("they meet in 200", told(slow + "23;bench e 14 2;rest a e 1;rest f e 30;").meet(0, 1), -2);
     }
 
     private static void bestRest() {
@@ -837,7 +924,17 @@ public final class PromiseTests {
         due("one told ahead is taken first", x.best(1, 0, 0), 0);
         due("its talk is d's", x.best(1, 0, 1), 3);
         x = told(one + times("rest d b 1;", 11));
-        due("a thirteenth rest", x.best(1, 0, 1), 1);
+        due("behind eleven others", x.best(1, 0, 1), 1);
+        x = told("bench b 1 2;bench c 9 1;walker a 0 0 1 0;walker d 0 0 1 2;" + times("rest a c 1;", 11) + "rest a b 9;");
+        due("a thirteenth rest", x.best(1, 0, 0), 7);
+        due("and its talk", x.best(1, 0, 1), 7);
+        due("twelve are told", x.count(2), 12);
+        x = told("bench b 1 2;walker a 0 0 1 0;walker d 0 0 1 0;rest a b 30;");
+        due("30 minutes", x.best(1, 0, 0), 30);
+        x = told("bench b 1 1;bench c 9 1;walker a 0 0 1 0;piano 3;" + times("rest a c 1;", 11) + "rest a b 9;");
+        due("the twelfth rest counts", x.out(0), 13);
+        x.go(1);
+        due("but is taken once", x.out(0), 12);
         x = told("bench b 1 2;bench c 2 2;walker a 0 0 1 0;walker d 0 0 1 0;rest a b 3;rest d b 3;rest a c 20;");
         x.go(2);
         due("talk until now", x.count(6), 2);
@@ -867,6 +964,12 @@ public final class PromiseTests {
         x = told("stair 10;bench a 4 1;bench b 3 1;bench c 6 1;bench d 7 1;");
         due("two of four, the least bits", x.cover(4), 5);
         due("one step at the most", told("stair 2;bench a 1 1;").cover(1), 1);
+        StringBuilder all = new StringBuilder("stair 9;");
+        for (int i = 1; i <= 8; i++) {
+            all.append("bench ").append((char) ('a' + i)).append(' ').append(i).append(" 1;");
+        }
+        due("all eight", told(all.toString()).cover(1), 255);
+        due("four of eight", told(all.toString()).cover(2), 1 + 4 + 16 + 64);
     }
 
     private static void carrying() {
@@ -964,6 +1067,7 @@ public final class PromiseTests {
         due("still known by 3", x.count(12), 3);
         due("known(-1)", x.known(-1), true);
         due("known by all", x.count(12), 24);
+        due("all of them are so", x.paces(0), 511);
     }
 
     private static void pacesSeen() {
@@ -1014,6 +1118,9 @@ public final class PromiseTests {
         due("d came in time, so it can't be", x.paces(1), 0);
         x.strike(0);
         due("d came later than in the first minute", x.paces(1), 3);
+        x = told("bench b 2 1;bench c 4 1;walker a 0 0 4 0;rest a c 30;");
+        x.see(1, 1, 1, true);
+        due("another bench than the first", x.paces(0), 504);
     }
 
     private static int timesDrawn(int seed, int call, int minutes, int talk) {
@@ -1138,6 +1245,19 @@ public final class PromiseTests {
         }
         due("six pushes stay", x.piano(), 21);
         due("none again", x.undo(), -1);
+        x = told("stair 60;bench b 1 1;walker a 0 0 1 0;piano 10;");
+        x.go(1);
+        due("a sits", x.sit(0, 9), 1);
+        for (int i = 1; i <= 21; i++) {
+            due("push " + i, x.push(1), 10 + i);
+        }
+        for (int i = 19; i >= 0; i--) {
+            x.undo();
+            due("the piano again", x.piano(), 11 + i);
+        }
+        due("no more", x.undo(), -1);
+        due("a sits yet", x.walker(0, 4), 9);
+        due("the piano is where it was pushed first", x.piano(), 11);
     }
 
     private static void images() {
@@ -1171,6 +1291,53 @@ public final class PromiseTests {
         x.back();
         due("seen stays", x.count(11), 2);
         due("and known", x.count(12), 1);
+
+        x = told("bench b 1 1;walker a 0 0 1 0;rest a b 30;call 10;seed 77;");
+        x.keep();
+        x.go(40);
+        int sat = x.walker(0, 5);
+        x.back();
+        x.go(40);
+        due("the same numbers again", x.walker(0, 5), sat);
+        x = told(TWO);
+        x.keep();
+        x.go(9);
+        due("they met", x.walker(0, 6), 2);
+        x.back();
+        due("not yet", x.walker(0, 6), 0);
+        due("no image is left behind a text", tell(x, TWO) * 10 + x.back(), 79);
+        crowd();
+    }
+
+    private static void crowd() {
+        StringBuilder all = new StringBuilder("stair 9;");
+        for (int i = 0; i < 8; i++) {
+            all.append("bench ").append((char) ('a' + i)).append(' ').append(8 - i).append(" 3;");
+        }
+        for (int i = 0; i < 6; i++) {
+            all.append("walker ").append((char) ('a' + i)).append(" 0 0 ").append(i + 1).append(" 0;");
+        }
+        for (int i = 0; i < 12; i++) {
+            all.append("rest ").append((char) ('a' + i % 6)).append(i < 6 ? " h 2;" : " a 3;");
+        }
+        HalfLandings x = told(all.toString());
+        // Three sit on h (step 1) for two minutes, the others go on: 4, 5 and 6 steps to nowhere, then to a (step 8).
+        x.go(1);
+        due("three sit on h", x.bench(7, 3), 7);
+        due("none is free", x.bench(7, 4), 0);
+        due("the fourth went on", x.walker(3, 1), 4);
+        due("three pairs", x.count(6), 3);
+        x.keep();
+        x.go(1);
+        due("three sit on a", x.bench(0, 3), 56);
+        due("six pairs", x.count(6), 9);
+        due("six are worn", x.count(9), 9);
+        due("six rests are taken", x.count(10), 6);
+        due("back", x.back(), 1);
+        due("three rests were", x.count(10), 3);
+        due("six sit in the next minute", x.ahead(1, 0, 0), 6);
+        due("all are out at last", x.ahead(60, 3, 0), 6);
+        due("the last one's pace", x.paces(5), 511);
     }
 
     private static int[] all(HalfLandings x) {
