@@ -1371,20 +1371,25 @@ public final class ModelRuns {
             return t.toString();
         }
 
+        int far(int near, int most) {
+            int[] all = {near, most, Integer.MIN_VALUE, Integer.MAX_VALUE, 1 << 16, -(1 << 16)};
+            return all[upTo(all.length - 1)];
+        }
+
         int someWalker() {
-            return seldom(12) ? upTo(8) - 1 : m.now.walkers.isEmpty() ? 0 : upTo(m.now.walkers.size() - 1);
+            return seldom(12) ? upTo(8) - 1 : seldom(30) ? far(-1, 6) : m.now.walkers.isEmpty() ? 0 : upTo(m.now.walkers.size() - 1);
         }
 
         int someBench() {
-            return seldom(12) ? upTo(10) - 1 : m.now.benches.isEmpty() ? 0 : upTo(m.now.benches.size() - 1);
+            return seldom(12) ? upTo(10) - 1 : seldom(30) ? far(-1, 8) : m.now.benches.isEmpty() ? 0 : upTo(m.now.benches.size() - 1);
         }
 
         int what(int most) {
-            return seldom(25) ? (random.nextBoolean() ? -1 : most + 1) : upTo(most);
+            return seldom(25) ? far(-1, most + 1) : upTo(most);
         }
 
         int span(int most) {
-            return seldom(25) ? (random.nextBoolean() ? -1 : most + 1) : seldom(10) ? most : upTo(Math.min(most, 25));
+            return seldom(25) ? far(-1, most + 1) : seldom(10) ? most : upTo(Math.min(most, 25));
         }
 
         void call() {
@@ -1412,7 +1417,7 @@ public final class ModelRuns {
                     }
                     due("rise(" + a + ")", x.rise(a) ? 1 : 0, m.rise(a) ? 1 : 0); break;
                 case 6: {
-                    int steps = upTo(8) - 4;
+                    int steps = seldom(9) ? far(-4, 4) : upTo(8) - 4;
                     due("push(" + steps + ")", x.push(steps), m.push(steps));
                     break;
                 }
@@ -1442,7 +1447,7 @@ public final class ModelRuns {
                 case 16: due("carry()", x.carry(), m.carry()); break;
                 case 17: due("rests(" + a + ", " + b + ")", x.rests(a, b), m.rests(a, b)); break;
                 case 18: {
-                    int k = upTo(4) - 1;
+                    int k = seldom(9) ? far(-1, 4) : upTo(4) - 1;
                     due("rest(" + a + ", " + b + ", " + k + ")", x.rest(a, b, k), m.rest(a, b, k));
                     break;
                 }
@@ -1454,18 +1459,18 @@ public final class ModelRuns {
                 }
                 case 20: case 21: see(bench); break;
                 case 22: {
-                    int i = upTo(m.seen.size() + 1) - 1;
+                    int i = seldom(9) ? far(-1, 24) : upTo(m.seen.size() + 1) - 1;
                     due("strike(" + i + ")", x.strike(i), m.strike(i));
                     break;
                 }
                 case 23: {
-                    int n = upTo(m.seen.size() + 3) - 2;
+                    int n = seldom(9) ? far(-2, 25) : upTo(m.seen.size() + 3) - 2;
                     due("known(" + n + ")", x.known(n) ? 1 : 0, m.known(n) ? 1 : 0);
                     break;
                 }
                 case 24: due("paces(" + a + ")", x.paces(a), m.paces(a)); break;
                 case 25: {
-                    int seed = seldom(8) ? -1 : random.nextInt() >>> 1;
+                    int seed = seldom(8) ? far(-1, 0) : random.nextInt() >>> 1;
                     int n = span(99);
                     int talk = seldom(9) ? what(9999) : upTo(20);
                     due("chance(" + seed + ", " + n + ", " + talk + ")", x.chance(seed, n, talk), m.chance(seed, n, talk));
@@ -1489,11 +1494,11 @@ public final class ModelRuns {
         }
 
         void see(int bench) {
-            int minutes = seldom(20) ? upTo(1) * 61 : 1 + upTo(seldom(3) ? 59 : 9);
+            int minutes = seldom(20) ? far(0, 61) : 1 + upTo(seldom(3) ? 59 : 9);
             World w = m.text.copy();
-            w.gained(minutes, 0);
+            w.gained(Math.min(minutes, 61), 0);
             int near = m.isBench(bench) ? w.benches.get(bench).worn + upTo(2) - 1 : 0;
-            int worn = seldom(20) ? (seldom(2) ? -1 : 10000) : near;
+            int worn = seldom(20) ? far(-1, 10000) : near;
             boolean least = random.nextBoolean();
             due("see(" + minutes + ", " + bench + ", " + worn + ", " + least + ")", x.see(minutes, bench, worn, least) ,
                 m.see(minutes, bench, worn, least));
