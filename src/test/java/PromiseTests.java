@@ -430,6 +430,7 @@ public final class PromiseTests {
         fault("law sits " + many + ";law talk not up;", 2, 86);
         fault("law sits " + many + ";law talk not not 1;", 2, 86);
         fault("law sits not " + many + " 1;", 1, 77);
+        fault("law sits not " + many, 1, 76);
         fault("law sits not " + many + " and;", 2, 77);
         fault("law sits not 1<1" + times("+1", 30) + "<1;", 1, 76);
         x = told("law sits (((1)))+((2));");
@@ -680,6 +681,7 @@ public final class PromiseTests {
         value("(1000*1000*1000*1000)*(1000*1000*1000*1000)", ERROR);
         value("4096*4096*4096*4096*4096*4096", ERROR);
         value("(4096*1024*1024)*(4096*1024*1024)", ERROR);
+        value("(4096*1024*1024)*(4096*1024*1024*1)", ERROR);
         value("(0-4096*1024*1024)*(4096*1024*1024)", ERROR);
         value("9999*9999*1000+9999*9999*1000", 199960002000L);
         value("0*(1000*1000*1000*1000)", 0);
@@ -722,6 +724,9 @@ public final class PromiseTests {
         x = told("stair 3;bench b 2 1;walker a 1 0 9 0;walker d 0 0 1 0;rest d b 1;");
         x.go(1);
         due("one who is out", x.sit(0, 1), -2);
+        HalfLandings long60 = told("stair 60;walker a 59 0 9 0;");
+        long60.go(1);
+        due("one who is out at 60", long60.sit(0, 1), -2);
         due("one on a step without a bench", x.sit(1, 1), -2);
     }
 
@@ -931,7 +936,9 @@ public final class PromiseTests {
         due("twelve are told", x.count(2), 12);
         x = told("bench b 1 2;walker a 0 0 1 0;walker d 0 0 1 0;rest a b 30;");
         due("30 minutes", x.best(1, 0, 0), 30);
-        x = told("bench b 1 1;bench c 9 1;walker a 0 0 1 0;piano 3;" + times("rest a c 1;", 11) + "rest a b 9;");
+        x = told("bench b 1 2;walker a 0 0 1 0;walker d 0 0 1 0;rest a b 1;");
+        due("none is not one minute", x.best(1, 0, 0), 1);
+        x = told("bench c 9 1;bench b 1 1;walker a 0 0 1 0;piano 3;" + times("rest a c 1;", 11) + "rest a b 9;");
         due("the twelfth rest counts", x.out(0), 13);
         x.go(1);
         due("but is taken once", x.out(0), 12);
@@ -969,6 +976,7 @@ public final class PromiseTests {
             all.append("bench ").append((char) ('a' + i)).append(' ').append(i).append(" 1;");
         }
         due("all eight", told(all.toString()).cover(1), 255);
+        due("the longest stair", told("stair 60;bench a 30 1;").cover(30), 1);
         due("four of eight", told(all.toString()).cover(2), 1 + 4 + 16 + 64);
     }
 
@@ -1338,6 +1346,13 @@ public final class PromiseTests {
         due("six sit in the next minute", x.ahead(1, 0, 0), 6);
         due("all are out at last", x.ahead(60, 3, 0), 6);
         due("the last one's pace", x.paces(5), 511);
+        tell(x, all + "piano 5;");
+        x.go(1);
+        due("the piano goes up", x.push(3), 8);
+        due("it is there", x.carry(), 0);
+        due("and down again", x.push(-3), 5);
+        // The fourth went to 4 and so stands below the piano, as the others do.
+        due("but no further", x.push(-1), -2);
     }
 
     private static int[] all(HalfLandings x) {
