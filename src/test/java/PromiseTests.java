@@ -1,13 +1,7 @@
-import java.util.NoSuchElementException;
-
 /** Each promise of the document by cases worked out by hand: ordinary ones, edges, wrong inputs. */
-public final class PromiseTests {
-    private static final long ERROR = Long.MIN_VALUE;
+public final class PromiseTests extends Check {
     private static final String TWO =
         "stair 12;bench low 3 1;bench mid 6 2;bench hi 9 2;walker ann 0 0 3 0;walker bo 12 1 3 1;rest ann mid 4;rest bo mid 2;";
-
-    private static int wrong = 0;
-    private static int asked = 0;
 
     public static void main(String[] args) {
         newObject();
@@ -40,87 +34,7 @@ public final class PromiseTests {
         undoing();
         images();
         counts();
-        System.out.println(asked + " answers, " + wrong + " not as due");
-        if (wrong != 0) {
-            System.exit(1);
-        }
-    }
-
-    private static void due(String what, long got, long want) {
-        asked++;
-        if (got != want) {
-            wrong++;
-            System.out.println(what + " answered " + got + ", due is " + want);
-        }
-    }
-
-    private static void due(String what, boolean got, boolean want) {
-        due(what, got ? 1 : 0, want ? 1 : 0);
-    }
-
-    private static void feedAll(HalfLandings x, String text) {
-        for (int i = 0; i < text.length(); i += 20) {
-            int[] five = new int[5];
-            for (int k = 0; k < 20; k++) {
-                five[k / 4] = five[k / 4] << 8 | (i + k < text.length() ? text.charAt(i + k) : ' ');
-            }
-            x.feed(five[0], five[1], five[2], five[3], five[4]);
-        }
-    }
-
-    private static int tell(HalfLandings x, String text) {
-        feedAll(x, text);
-        return x.text(text.length());
-    }
-
-    private static HalfLandings told(String text) {
-        HalfLandings x = new HalfLandings();
-        if (tell(x, text) < 0) {
-            due("a text without a fault: " + text, x.fault(0) * 1000 + x.fault(1), 0);
-        }
-        return x;
-    }
-
-    private static void fault(String text, int kind, int place) {
-        HalfLandings x = new HalfLandings();
-        due("text of '" + text + "'", tell(x, text), -1);
-        due("fault(0) of '" + text + "'", x.fault(0), kind);
-        due("fault(1) of '" + text + "'", x.fault(1), place);
-    }
-
-    private static void lines(String text, int many) {
-        HalfLandings x = new HalfLandings();
-        due("text of '" + text + "'", tell(x, text), many);
-        due("fault(0) of '" + text + "'", x.fault(0), 0);
-        due("fault(1) of '" + text + "'", x.fault(1), -1);
-    }
-
-    private static String times(String part, int many) {
-        StringBuilder all = new StringBuilder();
-        for (int i = 0; i < many; i++) {
-            all.append(part);
-        }
-        return all.toString();
-    }
-
-    private static int code(String word) {
-        int bits = 0;
-        for (int i = 0; i < 6; i++) {
-            bits = bits << 5 | (i < word.length() ? word.charAt(i) - 'a' + 1 : 0);
-        }
-        return bits;
-    }
-
-    /** 1 for IndexOutOfBoundsException, 2 for NoSuchElementException, 0 for an answer. */
-    private static int thrown(HalfLandings x, int walker, int what) {
-        try {
-            x.walker(walker, what);
-        } catch (IndexOutOfBoundsException e) {
-            return 1;
-        } catch (NoSuchElementException e) {
-            return 2;
-        }
-        return 0;
+        endWith("");
     }
 
     private static void newObject() {
