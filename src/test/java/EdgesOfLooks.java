@@ -35,6 +35,19 @@ final class EdgesOfLooks extends Check {
         due("WORN in 5, all of it", x.ahead(5, 1, 0), 30);
     }
 
+    @Says({"AHEAD for n MINUTES as it goes:", "RESTS, at most 12:"})
+    static void promise15_ahead_theTwelfthRest() {
+        // d turns at the piano and comes by b again.
+        HalfLandings x = told("bench c 9 1;bench b 1 1;walker a 20 0 1 99;walker d 0 0 1 0;piano 3;" + times("rest a c 1;", 11) + "rest d b 9;");
+        due("worn by it", x.ahead(50, 1, 1), 9);
+        due("taken by looking ahead alone", x.ahead(50, 1, 1), 9);
+        x.go(1);
+        due("taken", x.restOf(11, 3), 1);
+        due("taken once", x.ahead(50, 1, 1), 9);
+        due("the minutes left of it", x.ahead(8, 2, 1), 1);
+        due("on from it", x.ahead(9, 2, 1), 2);
+    }
+
     @Says("(of 0, 3 i isn't looked at)")
     static void promise15_ahead_iIsNotLookedAt() {
         HalfLandings x = told(PAIR);

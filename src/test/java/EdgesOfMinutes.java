@@ -264,6 +264,7 @@ final class EdgesOfMinutes extends Check {
         value("(" + most + ")*(0-" + most + ")", ERROR);
         // 2 to the 32 times itself is 0 in a long, if it is not looked at ahead.
         value("(4096*1024*1024)*(4096*1024*1024)", ERROR);
+        value("(4096*1024*1024)*(4096*1024*1024*1)", ERROR);
         value("(0-4096*1024*1024)*(4096*1024*1024)", ERROR);
         value("9999*9999*9999", 999700029999L);
         value("9999*9999*9999*2", ERROR);
@@ -291,18 +292,30 @@ final class EdgesOfMinutes extends Check {
         value("(0-7)/(0-2)", 3);
         value("1/2", 0);
         value("(0-1)/2", 0);
-        value("1<1", 0);
-        value("1<=1", 1);
-        value("1>=1", 1);
-        value("1>1", 0);
-        value("1=1", 1);
-        value("1<>1", 0);
         value("(0-1)<0", 1);
+    }
+
+    @Says("comparisons, and, or, not are 1 or 0")
+    static void promise10_law_lessAlikeMore() {
+        String[] signs = {"<", "<=", "=", "<>", ">=", ">", " and ", " or "};
+        // Of 0 and 1, 1 and 1, 1 and 0, 0 and 0.
+        String[] want = {"1000", "1101", "0101", "1010", "0111", "0010", "0100", "1110"};
+        String[] left = {"0", "1", "1", "0"};
+        String[] right = {"1", "1", "0", "0"};
+        for (int sign = 0; sign < signs.length; sign++) {
+            for (int i = 0; i < 4; i++) {
+                value(left[i] + signs[sign] + right[i], want[sign].charAt(i) - '0');
+            }
+        }
+        value("5<>7", 1);
+        value("7>5", 1);
     }
 
     @Says({"E: A { or A }. A: B { and B }. B: not B | C.", "S: T { ( + | - ) T }. T: P { ( * | / ) P }."})
     static void promise10_law_whatGoesFirst() {
         value("1 or 0 and 0", 1);
+        value("(1 or 0) and 0", 0);
+        value("0 and (0 or 1) or 1", 1);
         value("not 0 or 1", 1);
         value("not 1 and 0", 0);
         value("not 1=2", 1);

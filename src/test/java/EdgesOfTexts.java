@@ -170,6 +170,33 @@ final class EdgesOfTexts extends Check {
         due("without a seed it is 0", x.walker(0, 5) * 100 + x.walker(1, 5), y.walker(0, 5) * 100 + y.walker(1, 5));
     }
 
+    @Says({"The TAPE's first n bytes (it is empty then) are the TEXT", "how many LINES;"})
+    static void promise3_text_nothingOfOlderTexts() {
+        HalfLandings x = new HalfLandings();
+        String all = "stair 40;" + PAIR + "piano 11;call 40;seed 3;law sits 1;law talk 2*3;law wear 1+1;";
+        for (int i = 0; i < 3; i++) {
+            due("a text with all lines", tell(x, all), 12);
+            due("its knots", x.count(4), 7);
+            due("a law told but in part", tell(x, "stair 9;bench z 3 1;call 5;law sits (not (1*(2+"), NONE);
+            due("its laws yet", x.law(0, 0, 0) * 100 + x.law(1, 0, 0) * 10 + x.law(2, 0, 0), 162);
+        }
+        for (int i = 0; i < 4; i++) {
+            tell(x, "bench b 3 1;walker a 0 0 1 0;law talk not not 1" + times("+1", 30) + ";law wear 5;");
+            due("64 knots, again and again", x.law(1, 0, 0) * 10 + x.law(2, 0, 0), 15);
+        }
+        for (int i = 0; i < 2; i++) {
+            due("no lines", x.text(0), 0);
+            for (int what = 0; what <= 13; what++) {
+                due("count(" + what + ")", x.count(what), what == 3 ? 20 : 0);
+            }
+            due("piano", x.piano(), -2);
+            due("call", x.quiet(1, 0), 1);
+            due("name", x.named(0, code("b")), NONE);
+            due("a bench where one was", tell(x, "bench c 1 1;walker w 0 0 1 0;"), 2);
+            due("the older law", x.law(0, 0, 0), ERROR);
+        }
+    }
+
     @Says({"how many LINES;", "A TEXT: { LINE ';' }."})
     static void promise3_text_withoutLines() {
         lines("", 0);
@@ -341,6 +368,8 @@ final class EdgesOfTexts extends Check {
         fault("law ^pace 1;", 1);
         fault("law ^sit 1;", 1);
         fault("law ^law 1;", 1);
+        fault("law ^seed 1;", 1);
+        fault("law ^or 1;", 1);
     }
 
     @Says({"stair: its TOP 2 .. 60 (20 without; only as the first LINE).", "a number beyond what is said"})
@@ -556,6 +585,9 @@ final class EdgesOfTexts extends Check {
         lines("law sits not not not 1 and not 2 or not (not 3);", 1);
         fault("law sits not^;", 1);
         fault("law sits 1 ^not 2;", 1);
+        lines("law sits 1+(not 2);", 1);
+        lines("law sits 1<(not 2);", 1);
+        lines("law sits 2*(not (not 2)+1);", 1);
     }
 
     @Says({"C: S [ ( < | <= | = | <> | >= | > ) S ].", "S: T { ( + | - ) T }. T: P { ( * | / ) P }."})
@@ -603,6 +635,7 @@ final class EdgesOfTexts extends Check {
         fault("law sits " + times("(", 7) + "1+(2)*^x", 1);
         fault("law sits " + times("(", 7) + "1+(2)*(3+^(", 2);
         lines("law sits " + times("(1)+", 20) + "1;", 1);
+        lines("law sits " + times("(", 8) + times("not ", 63) + "1" + times(")", 8) + ";", 1);
         lines("law sits " + times("(", 8) + "1" + times(")", 8) + ";law talk " + times("(", 8) + "1" + times(")", 8) + ";", 2);
         fault("law sits 1^" + times("(", 9), 1);
     }

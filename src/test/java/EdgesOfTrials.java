@@ -64,6 +64,17 @@ final class EdgesOfTrials extends Check {
         due("31 at least behind 60 minutes", seen(60, 31, true), 0);
     }
 
+    @Says("a BENCH was WORN so much 0 .. 9999 at least, or less.")
+    static void promise25_see_eachBench() {
+        HalfLandings x = told("bench c 3 1;bench b 9 1;walker a 0 0 4 0;rest a b 30;");
+        x.see(1, 1, 1, true);
+        due("the second", x.paces(0), 256);
+        x.see(60, 0, 1, false);
+        due("the first is never worn", x.paces(0), 256);
+        x.see(60, 0, 1, true);
+        due("and so that can't be", x.paces(0), 0);
+    }
+
     private static int seen(int minutes, int worn, boolean atLeast) {
         HalfLandings x = told(NINE);
         x.see(minutes, 0, worn, atLeast);
@@ -418,6 +429,34 @@ final class EdgesOfTrials extends Check {
         due("room again", x.undo(), 0);
     }
 
+    @Says({"(20 at most)", "the latest first"})
+    static void promise31_undo_20OfAllKinds() {
+        HalfLandings x = told("stair 60;bench b 1 1;walker a 0 0 1 0;piano 10;");
+        x.go(1);
+        // A push, a sitting, a rising in turn: 24, of which 20 can be undone.
+        for (int i = 0; i < 8; i++) {
+            x.push(1);
+            x.sit(0, i + 1);
+            x.rise(0);
+        }
+        due("20", x.count(13), 20);
+        for (int i = 7; i >= 2; i--) {
+            x.undo();
+            due("he sits again", x.walker(0, 4), i + 1);
+            x.undo();
+            due("he walks again", x.walker(0, 0) * 10 + x.walker(0, 4), 10);
+            x.undo();
+            due("the piano", x.piano(), 10 + i);
+        }
+        due("two are left", x.count(13), 2);
+        due("one is left", x.undo(), 1);
+        due("he sits", x.walker(0, 4), 2);
+        due("none is left", x.undo(), 0);
+        due("he walks", x.walker(0, 0), 1);
+        due("no more", x.undo(), NONE);
+        due("the piano was pushed twice", x.piano(), 12);
+    }
+
     @Says("if no MINUTE went by since.")
     static void promise31_undo_noMinuteSince() {
         HalfLandings x = told("piano 9;");
@@ -474,6 +513,12 @@ final class EdgesOfTrials extends Check {
         same("as it was", everything(x), then);
         x.go(3);
         same("the same numbers come", everything(x), later);
+        HalfLandings y = told(PAIR);
+        y.keep();
+        y.go(40);
+        due("they met", y.walker(0, 6) * 10 + y.walker(1, 6), 21);
+        y.back();
+        due("nobody met yet", y.walker(0, 6) * 10 + y.walker(1, 6), 0);
     }
 
     private static void same(String what, int[] got, int[] want) {
