@@ -433,9 +433,12 @@ final class EdgesOfLooks extends Check {
         HalfLandings z = told("stair 10;walker a 3 1 1 0;piano 3;");
         z.go(1);
         due("he walks right below it", z.carry(), 2);
-        HalfLandings w = told("stair 10;walker a 0 1 1 0;piano 9;");
+        HalfLandings w = told("stair 10;walker a 10 1 1 0;walker d 0 0 1 0;piano 9;");
         w.go(1);
+        due("he is on the TOP and not out", w.walker(0, 0) * 100 + w.walker(0, 1), 110);
         due("it is there", w.carry(), 0);
+        due("down", w.push(-2), 7);
+        due("nobody is on the way", w.carry(), 1);
     }
 
     @Says("NONE: there is no piano.")

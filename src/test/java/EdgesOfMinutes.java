@@ -475,6 +475,12 @@ final class EdgesOfMinutes extends Check {
         due("out at 0", where(y, 0), 3001);
         due("out at the top", where(y, 1), 3200);
         due("to 1", y.push(-1), 1);
+        // Six walkers, of whom the last one is in the way.
+        HalfLandings z = behind(1, "walker a 0 0 1 50;walker b 0 0 1 50;walker c 0 0 1 50;walker d 0 0 1 50;walker e 0 0 1 50;walker f 11 0 1 0;piano 10;");
+        due("onto the sixth", z.push(2), -2);
+        due("below the sixth", z.push(1), 11);
+        z.go(1);
+        due("the sixth went on", z.push(1), 12);
     }
 
     // ---- promise 14: a minute's parts

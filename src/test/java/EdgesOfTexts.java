@@ -98,6 +98,24 @@ final class EdgesOfTexts extends Check {
         feedAll(x, "law sits 1<=2;");
         due("a sign cut short", x.text(11), NONE);
         due("place", x.fault(1), 11);
+        feedAll(x, "laws");
+        due("a word cut short", x.text(3), NONE);
+        due("place", x.fault(1), 3);
+        feedAll(x, "call 5;    piano");
+        due("blanks cut short", x.text(9), 1);
+    }
+
+    @Says({"The TAPE's first n bytes (it is empty then) are the TEXT", "or can't stand there (the length, if more must come;"})
+    static void promise3_text_allOfAFullTape() {
+        for (String end : new String[] {"law", "call 5", "law sits 1<", "call 5;law sits 1>", "call"}) {
+            HalfLandings x = new HalfLandings();
+            due("text of 700 that ends with " + end, tell(x, times(" ", 700 - end.length()) + end), NONE);
+            due("fault(0)", x.fault(0), 1);
+            due("fault(1)", x.fault(1), 700);
+        }
+        HalfLandings y = new HalfLandings();
+        due("the last byte is a ';'", tell(y, times(" ", 692) + "call 50;"), 1);
+        due("the last byte is a blank", tell(y, "call 50;" + times("\n", 692)), 1);
     }
 
     @Says("The TAPE's first n bytes (it is empty then) are the TEXT")
@@ -351,6 +369,14 @@ final class EdgesOfTexts extends Check {
         fault("^sits 5;", 1);
         fault("^not 5;", 1);
         fault("^(call 5);", 1);
+        for (String sign : new String[] {";", "(", ")", "+", "-", "*", "/", "<", "<=", "=", "<>", ">=", ">"}) {
+            fault("^" + sign, 1);
+            fault("call 5;^" + sign, 1);
+            fault("call ^" + sign + "5;", 1);
+            fault("bench ^" + sign + " 1 1;", 1);
+            fault("law ^" + sign + " 1;", 1);
+            fault("law sits ^" + sign.replace("(", ")") + "1;", 1);
+        }
         fault("stair ^a;", 1);
         fault("bench a ^b 1;", 1);
         fault("bench a 1 ^b;", 1);

@@ -607,6 +607,22 @@ final class EdgesOfTrials extends Check {
         }
     }
 
+    @Says({"0 BENCHES, 1 WALKERS, 2 RESTS,", "9 WORN of all BENCHES,", "10 RESTS taken,"})
+    static void promise34_count_nothingOfOlderTexts() {
+        HalfLandings x = told("bench c 2 1;bench e 3 1;" + PAIR + "rest a c 3;rest d e 3;");
+        x.go(60);
+        due("all four taken", x.count(10), 4);
+        due("worn", x.count(9), 66);
+        for (int i = 0; i < 2; i++) {
+            tell(x, "bench b 1 1;walker a 0 0 1 0;rest a b 2;");
+            due("none taken", x.count(10), 0);
+            due("nothing worn", x.count(9), 0);
+            x.go(5);
+            due("one taken", x.count(10), 1);
+            due("worn by two", x.count(9), 2);
+        }
+    }
+
     @Says("9 WORN of all BENCHES,")
     static void promise34_count_wornOfAllBenches() {
         // Eight benches, six of them worn by one each.
