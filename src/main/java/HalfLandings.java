@@ -427,23 +427,24 @@ public final class HalfLandings {
         if (n < 0 || n > MOST_QUIET || what < 0 || what > 1) {
             return NONE;
         }
-        int common = commonDivisor(100 - plan.call, 100);
-        int base = what == 0 ? 100 - plan.call : 100;
+        int quietOf = 100 - plan.call;
+        int base = what == 0 ? inLeastTerms(quietOf, 100) : inLeastTerms(100, quietOf);
         long power = 1;
         // A power of a fraction in least terms is in least terms itself.
         for (int i = 0; i < n; i++) {
-            power *= base / common;
+            power *= base;
         }
         return power;
     }
 
-    private static int commonDivisor(int a, int b) {
-        for (int divisor = b; divisor > 1; divisor--) {
-            if (a % divisor == 0 && b % divisor == 0) {
-                return divisor;
+    /** The part of a fraction of at most 100 by 100 without what it has in common with the other part. */
+    private static int inLeastTerms(int part, int other) {
+        for (int divisor = 100; divisor > 1; divisor--) {
+            if (part % divisor == 0 && other % divisor == 0) {
+                return part / divisor;
             }
         }
-        return 1;
+        return part;
     }
 
     public int see(int minutes, int bench, int worn, boolean atLeast) {
